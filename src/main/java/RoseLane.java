@@ -46,7 +46,7 @@ public final class RoseLane {
         for (int k = 0; k < KEEPS; k++) {
             kept[k] = new Nose();
         }
-        nose.freshen(lane);
+        nose.purse = FIRST_PURSE;
     }
 
     // ---- what is told
@@ -442,7 +442,9 @@ public final class RoseLane {
         scout.freshen(lane);
         int smelt = 0;
         for (int place = 0; place < lane.shops; place++) {
-            scout.step(lane, place == 0 ? 0 : 1);
+            if (place > 0) {
+                scout.step(lane, 1);
+            }
             int shop = byPlaces[place];
             if (shop == coffee) {
                 scout.smell(lane, anyCoffee);

@@ -109,6 +109,9 @@ final class ToldTest {
         faultIs("want5", NONE);
         faultIs("want  5  ", NONE);
         faultIs("wanta 5", 0);
+        faultIs("wantz 5", 0);
+        faultIs("xant 5", 0);
+        faultIs("wanx 5", 0);
         faultIs("want 5a", 6);
         faultIs("want a5", 5);
         faultIs("want 5 5", 7);

@@ -108,9 +108,7 @@ final class WalkTest {
         for (int i = 0; i < 499; i++) {
             x.idle(20);
         }
-        for (int i = 0; i < 1; i++) {
-            x.idle(19);
-        }
+        x.idle(19);
         Due.is("9 steps", x.count(4), 9999);
         Due.is("9 visit from 9999", x.visit(1), 10);
         Due.is("9 steps", x.count(4), 10000);
