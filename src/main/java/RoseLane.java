@@ -110,7 +110,7 @@ public final class RoseLane {
             case 3: return asked.price;
             case 4: return nose.placeOf(lane, shop);
             case 5: return nose.bought >> shop & 1;
-            case 6: return nose.smeltNow(asked);
+            case 6: return asked.smeltBy(nose.tired[asked.sort], nose.cold > 0);
             default: return OUTSIDE;
         }
     }
@@ -648,16 +648,12 @@ public final class RoseLane {
             steps += n;
         }
 
-        int smeltNow(Shop shop) {
-            return shop.smeltBy(tired[shop.sort], cold > 0);
-        }
-
         /** What a visit does on the spot, but for buying. */
         int smell(Lane lane, Shop shop) {
             if (shop == null) {
                 return 0;
             }
-            int much = smeltNow(shop);
+            int much = shop.smeltBy(tired[shop.sort], cold > 0);
             int tire = lane.tire[shop.sort];
             for (int sort = 0; sort < SORTS; sort++) {
                 tired[sort] = held(tired[sort] + shop.tiring(sort, tire));

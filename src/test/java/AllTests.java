@@ -7,6 +7,9 @@ public final class AllTests {
         ToldTest.run();
         WalkTest.run();
         ForetoldTest.run();
+        TextBoundsTest.run();
+        WalkBoundsTest.run();
+        ForetoldBoundsTest.run();
         ModelTest.run();
         LanguageTest.run(args.length > 0 ? args[0] : "src/main/java/RoseLane.java");
         System.out.println(Due.passed + " passed, " + Due.failed + " failed");

@@ -24,12 +24,17 @@ final class ModelTest {
 
     private void go() {
         boolean idler = lot.nextInt(10) == 0;
-        tell(goodText(6));
-        while (calls < 500) {
-            int n = lot.nextInt(100);
-            if (idler && n < 90) {
+        if (idler) {
+            for (int i = 0; i < 499; i++) {
                 idle(20);
-            } else if (n < 3) {
+            }
+            idle(near(15, 20));
+        } else {
+            tell(goodText(6));
+        }
+        while (calls < Calls.MOST) {
+            int n = lot.nextInt(100);
+            if (n < 3) {
                 tell(lot.nextBoolean() ? goodText(lot.nextInt(4)) : anyText());
             } else if (n < 50) {
                 walk();
@@ -86,7 +91,12 @@ final class ModelTest {
         return text.toString();
     }
 
+    /** A text that no longer fits into the calls of a run is left out. */
     private void tell(String text) {
+        if (calls + text.length() + 3 > Calls.MOST) {
+            ask();
+            return;
+        }
         same("erase()", x.erase(), model.erase());
         for (int i = 0; i < text.length(); i++) {
             int letter = text.charAt(i);

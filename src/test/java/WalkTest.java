@@ -1,6 +1,6 @@
 /** Promises 9 to 15 and 25: steps, visits, wind, colds, what is undone and kept. */
 final class WalkTest {
-    private static final int UNKNOWN = Due.UNKNOWN, OUTSIDE = Due.OUTSIDE, NOT = Due.NOT, FULL = Due.FULL;
+    private static final int UNKNOWN = Due.UNKNOWN, OUTSIDE = Due.OUTSIDE, NOT = Due.NOT;
 
     private WalkTest() {
     }
@@ -9,7 +9,6 @@ final class WalkTest {
         visit();
         visitTires();
         visitBuys();
-        visitFull();
         idle();
         wind();
         cold();
@@ -103,24 +102,6 @@ final class WalkTest {
         Due.is("9 bought later", x.count(5), 8);
     }
 
-    private static void visitFull() {
-        RoseLane x = Due.told("plain 0 10 20;plain 0 10 20");
-        for (int i = 0; i < 499; i++) {
-            x.idle(20);
-        }
-        x.idle(19);
-        Due.is("9 steps", x.count(4), 9999);
-        Due.is("9 visit from 9999", x.visit(1), 10);
-        Due.is("9 steps", x.count(4), 10000);
-        Due.is("9 full", x.visit(1), FULL);
-        Due.is("9 unknown, full", x.visit(2), UNKNOWN);
-        Due.is("10 full", x.idle(1), FULL);
-        Due.is("10 outside, full", x.idle(21), OUTSIDE);
-        Due.is("9 undo", x.undo(), 7);
-        Due.is("10 idle from 9999", x.idle(20), 10019);
-        Due.is("10 full again", x.idle(1), FULL);
-    }
-
     private static void idle() {
         RoseLane x = Due.told("sort 0 9 2;sort 1 9 5;plain 0 10 20;plain 0 10 20");
         for (int n : Due.EDGES) {
@@ -187,11 +168,10 @@ final class WalkTest {
         Due.is("12 none behind a text", x.count(6), 0);
     }
 
-    private static void undo() {
+    /** Twelve steps of all kinds, or the first of them. */
+    private static RoseLane walked(int steps) {
         RoseLane x = Due.told("plain 0 11 20;musk 1 12 5;nothing 2 13 5;coffee 3 14 1");
-        String[] states = new String[12];
-        for (int i = 0; i < 12; i++) {
-            states[i] = Due.seen(x);
+        for (int i = 0; i < steps; i++) {
             switch (i % 4) {
                 case 0: x.visit(i / 4 + 1); break;
                 case 1: x.wind(); break;
@@ -200,12 +180,23 @@ final class WalkTest {
             }
             Due.is("13 can be undone", x.count(9), Math.min(8, i + 1));
         }
-        for (int i = 11; i >= 4; i--) {
-            Due.is("13 undo", x.undo(), i - 4);
-            Due.same("13 as before", counted(Due.seen(x)), counted(states[i]));
+        return x;
+    }
+
+    private static void undo() {
+        for (int undone = 1; undone <= 8; undone++) {
+            RoseLane x = walked(12);
+            for (int i = 1; i <= undone; i++) {
+                Due.is("13 undo", x.undo(), 8 - i);
+            }
+            Due.same("13 as before", counted(Due.seen(x)), counted(Due.seen(walked(12 - undone))));
+        }
+        RoseLane x = walked(12);
+        for (int i = 0; i < 8; i++) {
+            x.undo();
         }
         Due.is("13 none left", x.undo(), NOT);
-        Due.same("13 refused", counted(Due.seen(x)), counted(states[4]));
+        Due.same("13 refused", counted(Due.seen(x)), counted(Due.seen(walked(4))));
         x.cold(x.count(6));
         Due.is("13 one that changed nothing", x.undo(), 0);
         x.visit(99);
