@@ -12,6 +12,7 @@ public final class AllTests {
         ForetoldBoundsTest.run();
         ModelTest.run();
         LanguageTest.run(args.length > 0 ? args[0] : "src/main/java/RoseLane.java");
+        ReadmeTest.run();
         System.out.println(Due.passed + " passed, " + Due.failed + " failed");
         System.exit(Due.failed == 0 ? 0 : 1);
     }
